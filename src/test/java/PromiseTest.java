@@ -401,6 +401,13 @@ public final class PromiseTest {
     // 8 at the root goes down to the left of the equal ones, then no child of it is less
     DUE.is("HEAP STRIKE with equal children", steps(equal, HEAP, STRIKE, 1), 2);
     DUE.row("HEAP with equal children", keysOn(equal, HEAP), 5, 8, 5, 9);
+    WhichShelf deep = put(1, 3, 2, 7, 5, 6, 4, 9, 8, 10);
+    // 10 goes down by 2 and 4: places 2 and 6
+    DUE.is("HEAP STRIKE with two moves down", steps(deep, HEAP, STRIKE, 1), 3);
+    DUE.row("HEAP with two moves down", keysOn(deep, HEAP), 2, 3, 4, 7, 5, 6, 10, 9, 8);
+    // 8 comes in the place of 3 and goes down by 5, where it has no child
+    DUE.is("HEAP STRIKE in the midst", steps(deep, HEAP, STRIKE, 3), 3);
+    DUE.row("HEAP struck in the midst", keysOn(deep, HEAP), 2, 5, 4, 7, 8, 6, 10, 9);
     WhichShelf right = put(1, 7, 5, 9, 8, 6);
     DUE.is("HEAP STRIKE with a lesser right child", steps(right, HEAP, STRIKE, 1), 2);
     DUE.row("HEAP with a lesser right child", keysOn(right, HEAP), 5, 7, 6, 9, 8);

@@ -602,7 +602,7 @@ public final class WhichShelf {
         int step(int kind, int key) {
             switch (kind) {
                 case PUT:
-                    return putAtHead(key);
+                    return spreadIfFull() + putAtHead(key);
                 case ASK:
                     return seek(key);
                 case STRIKE:
@@ -653,9 +653,8 @@ public final class WhichShelf {
         }
 
         private int putAtHead(int key) {
-            int spread = spreadIfFull();
             insert(headOfChain(key), key);
-            return spread + 1;
+            return 1;
         }
 
         private int spreadIfFull() {
@@ -772,7 +771,7 @@ public final class WhichShelf {
         }
     }
 
-    /** TREE: as nodes hold unlike keys, a key is the number of its node; a node that is not there has none of its key. */
+    /** TREE: as nodes hold unlike keys, a key is the number of its node; links are keys or NONE. */
     private static final class Tree extends Counted {
         private final int[] left = new int[KEYS];
         private final int[] right = new int[KEYS];
@@ -801,7 +800,7 @@ public final class WhichShelf {
                 case STRIKE:
                     return strike(key);
                 case LEAST:
-                    return seekLeast(root);
+                    return seekLeast();
                 case FIRST:
                     return 0;
                 default:
@@ -822,8 +821,8 @@ public final class WhichShelf {
             return node == key ? looked + 1 : looked;
         }
 
-        private int seekLeast(int from) {
-            int node = from;
+        private int seekLeast() {
+            int node = root;
             int looked = 0;
             while (isKey(node) && looked < KEYS) {
                 looked++;
@@ -861,33 +860,26 @@ public final class WhichShelf {
                 hang(left[key] == NONE ? right[key] : left[key], key);
                 return 0;
             }
-            int looked = seekLeast(right[key]);
-            hang(leastOfRightPart(key), key);
-            return looked;
-        }
-
-        /** Loosens the least node right of a key and gives it that key's children. */
-        private int leastOfRightPart(int key) {
             int parent = key;
             int least = right[key];
-            for (int i = 0; i < KEYS && isKey(least) && left[least] != NONE; i++) {
+            int looked = 1;
+            while (looked < KEYS && left[least] != NONE) {
                 parent = least;
                 least = left[least];
-            }
-            if (!isKey(least)) {
-                return NONE;
+                looked++;
             }
             if (parent != key) {
                 left[parent] = right[least];
                 right[least] = right[key];
             }
             left[least] = left[key];
-            return least;
+            hang(least, key);
+            return looked;
         }
 
         /** Puts a node, or none, at the place of the key sought last. */
         private void hang(int node, int key) {
-            if (!isKey(above)) {
+            if (above == NONE) {
                 root = node;
             } else if (key < above) {
                 left[above] = node;

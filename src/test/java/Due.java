@@ -6,6 +6,8 @@ final class Due {
   static final int THROWN = Integer.MIN_VALUE;
 
   private final String test;
+  private String sentence = "";
+  private int sentences = 0;
   private int asked = 0;
   private int wrong = 0;
 
@@ -13,12 +15,18 @@ final class Due {
     this.test = test;
   }
 
+  /** The words of the document that the answers from here on hold it to. */
+  void of(String words) {
+    sentence = " [" + words + "]";
+    sentences++;
+  }
+
   void is(String call, int got, int want) {
     asked++;
     if (got != want) {
       wrong++;
       if (wrong <= 50) {
-        System.out.println(test + ": " + call + " answered " + got + ", due is " + want);
+        System.out.println(test + sentence + ": " + call + " answered " + got + ", due is " + want);
       }
     }
   }
@@ -47,7 +55,8 @@ final class Due {
   }
 
   void end() {
-    System.out.println(test + ": " + asked + " answers, " + wrong + " not as due");
+    String of = sentences == 0 ? "" : sentences + " sentences, ";
+    System.out.println(test + ": " + of + asked + " answers, " + wrong + " not as due");
     if (wrong > 0) {
       System.exit(1);
     }

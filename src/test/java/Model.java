@@ -4,7 +4,7 @@ import java.util.Collections;
 import java.util.LinkedList;
 import java.util.List;
 
-/** The document told a second time, with the Java library and everything reckoned anew for each question. */
+/** The document told a second time, with the Java library and everything reckoned anew when anything has changed. */
 final class Model {
   static final int NONE = -1;
 
@@ -24,12 +24,14 @@ final class Model {
 
   int call(int kind, int key) {
     if (kind < 0 || kind > 7 || key < 0 || key > 63 || trace.size() == 200) return NONE;
+    forget();
     trace.add(new int[] {kind, key});
     return trace.size() - 1;
   }
 
   int draw(int seed, int n, int keys, int mask) {
     if (n < 0 || n > 100 || keys < 1 || keys > 64 || mask < 0 || mask > 255 || trace.size() + n > 200) return NONE;
+    forget();
     int r = seed;
     for (int i = 0; i < n; i++) {
       r = r * 1103515245 + 12345;
@@ -42,18 +44,21 @@ final class Model {
 
   int drop(int n) {
     if (n < 0 || n > trace.size()) return NONE;
+    forget();
     for (int i = 0; i < n; i++) trace.remove(trace.size() - 1);
     return trace.size();
   }
 
   boolean law(int law, boolean is) {
     if (law < 1 || law > 2) return false;
+    forget();
     laws[law] = is;
     return true;
   }
 
   int set(int what, int v) {
     if (what < 0 || what > 1 || v < 0 || v > 1000) return NONE;
+    forget();
     int was = prices[what];
     prices[what] = v;
     return was;
@@ -144,10 +149,14 @@ final class Model {
     }
   }
 
-  /** Sum, moves and the shelf of each call; forward, the best way to each shelf being kept whole. */
   private int[] plan() {
+    if (keptPlan == null) keptPlan = trace.isEmpty() ? new int[2] : planned();
+    return keptPlan;
+  }
+
+  /** Sum, moves and the shelf of each call; forward, the best way to each shelf being kept whole. */
+  private int[] planned() {
     int n = trace.size();
-    if (n == 0) return new int[2];
     List<int[]> ways = new ArrayList<>();
     List<Integer> sizes = laid(0).sizes;
     for (int i = 0; i < n; i++) {
@@ -192,16 +201,17 @@ final class Model {
     return ways.isEmpty() ? null : Collections.min(ways, Arrays::compare);
   }
 
-  // ---- the shelves; what was laid is kept until the trace is another one ----
+  // ---- the shelves; what was laid and planned is kept until a call changes something
 
   private final Laid[] kept = new Laid[6];
-  private List<int[]> keptFor = new ArrayList<>();
+  private int[] keptPlan = null;
+
+  private void forget() {
+    Arrays.fill(kept, null);
+    keptPlan = null;
+  }
 
   private Laid laid(int shelf) {
-    if (!keptFor.equals(trace)) {
-      Arrays.fill(kept, null);
-      keptFor = new ArrayList<>(trace);
-    }
     if (kept[shelf] == null) kept[shelf] = lay(shelf);
     return kept[shelf];
   }

@@ -1,6 +1,6 @@
 import java.util.Random;
 
-/** Random runs of calls, each answer held against the model's; the seeds are written, so a run is the same each time. */
+/** Random runs of calls, each answer held against the model's; the seeds are written, so every run is alike. */
 public final class ModelTest {
   private static final int[] ODD = {-1, 0, 1, 63, 64, 65, 200, Integer.MIN_VALUE, Integer.MAX_VALUE};
   private static final Due DUE = new Due("ModelTest");
@@ -9,7 +9,7 @@ public final class ModelTest {
     for (int run = 0; run < 400 && !DUE.anyWrong(); run++) {
       mixedRun(run);
     }
-    for (int run = 0; run < 150 && !DUE.anyWrong(); run++) {
+    for (int run = 0; run < 600 && !DUE.anyWrong(); run++) {
       longTrace(run);
     }
     for (int run = 0; run < 300 && !DUE.anyWrong(); run++) {
@@ -95,7 +95,7 @@ public final class ModelTest {
     }
   }
 
-  /** A trace drawn to the brim, and then everything that can be asked of it. */
+  /** A trace drawn to the brim, and as many questions as an object is used for, ahead of a drop and behind it. */
   private static void longTrace(int run) {
     Random dice = new Random(1000 + run);
     WhichShelf x = new WhichShelf();
@@ -107,56 +107,20 @@ public final class ModelTest {
       DUE.is("draw", x.draw(seed, 100, keys, mask), m.draw(seed, 100, keys, mask));
     }
     setAll(x, m, dice.nextInt(4), dice.nextInt(2), run % 5 == 0);
-    askAll(x, m);
+    for (int i = 0; i < 250; i++) {
+      ask(dice, x, m);
+    }
     int gone = dice.nextInt(201);
     DUE.is("drop", x.drop(gone), m.drop(gone));
-    askAll(x, m);
+    for (int i = 0; i < 250; i++) {
+      ask(dice, x, m);
+    }
   }
 
   private static void setAll(WhichShelf x, Model m, int fee, int each, boolean walksGoUp) {
     DUE.is("set 0 " + fee, x.set(0, fee), m.set(0, fee));
     DUE.is("set 1 " + each, x.set(1, each), m.set(1, each));
     DUE.is("law 1 " + walksGoUp, x.law(1, walksGoUp), m.law(1, walksGoUp));
-  }
-
-  private static void askAll(WhichShelf x, Model m) {
-    for (int i = -1; i <= 200; i++) {
-      for (int what = -1; what <= 3; what++) {
-        DUE.is("told " + i + " " + what, x.told(i, what), m.told(i, what));
-      }
-      DUE.is("answer " + i, Due.answer(x, i), m.answer(i));
-      for (int shelf = -1; shelf <= 6; shelf++) {
-        DUE.is("cost " + shelf + " " + i, x.cost(shelf, i), m.cost(shelf, i));
-        DUE.is("key " + shelf + " " + i, x.key(shelf, i), m.key(shelf, i));
-      }
-    }
-    for (int shelf = -1; shelf <= 6; shelf++) {
-      for (int what = -1; what <= 6; what++) {
-        DUE.is("sum " + shelf + " " + what, x.sum(shelf, what), m.sum(shelf, what));
-      }
-      for (int n = -1; n <= 201; n += 7) {
-        DUE.is("drift " + shelf + " " + n + " 0", x.drift(shelf, n, 0), m.drift(shelf, n, 0));
-        DUE.is("drift " + shelf + " " + n + " 1", x.drift(shelf, n, 1), m.drift(shelf, n, 1));
-      }
-      if (shelf >= 0 && shelf < 6) {
-        int worst = m.sum(shelf, 1);
-        int room = m.sum(shelf, 3);
-        DUE.is("best", x.best(worst, room), m.best(worst, room));
-        DUE.is("best", x.best(worst - 1, room), m.best(worst - 1, room));
-        DUE.is("best", x.best(worst, room - 1), m.best(worst, room - 1));
-      }
-    }
-    askStages(x, m);
-  }
-
-  private static void askStages(WhichShelf x, Model m) {
-    DUE.is("stages", x.stages(), m.stages());
-    for (int i = 0; i < 200; i += 9) {
-      DUE.is("stage " + i, x.stage(i), m.stage(i));
-    }
-    for (int what = -1; what <= 5; what++) {
-      DUE.is("count " + what, x.count(what), m.count(what));
-    }
   }
 
   /** A trace so short that all its STAGES can be tried; small prices make many of them equal. */

@@ -1,8 +1,5 @@
 /** Each promise by hand: ordinary inputs, the edges that the document names, wrong inputs. */
-public final class PromiseTest {
-  private static final int NONE = WhichShelf.NONE;
-  private static final int PUT = 0, ASK = 1, STRIKE = 2, WALK = 3, LEAST = 4, NEXT = 5, FIRST = 6, MANY = 7;
-  private static final int ROW = 0, SORTED = 1, HASH = 2, TREE = 3, HEAP = 4, BITS = 5;
+public final class PromiseTest extends Trial {
   private static final Due DUE = new Due("PromiseTest");
 
   public static void main(String[] args) {
@@ -30,31 +27,6 @@ public final class PromiseTest {
     count();
     refusedCallsChangeNothing();
     DUE.end();
-  }
-
-  private static WhichShelf put(int... keys) {
-    WhichShelf x = new WhichShelf();
-    for (int key : keys) {
-      x.call(PUT, key);
-    }
-    return x;
-  }
-
-  /** Lays one call more: its steps on a shelf. */
-  private static int steps(WhichShelf x, int shelf, int kind, int key) {
-    return x.cost(shelf, x.call(kind, key));
-  }
-
-  private static int[] keysOn(WhichShelf x, int shelf) {
-    int n = 0;
-    while (x.key(shelf, n) != NONE) {
-      n++;
-    }
-    int[] keys = new int[n];
-    for (int i = 0; i < n; i++) {
-      keys[i] = x.key(shelf, i);
-    }
-    return keys;
   }
 
   // Promise 1
@@ -165,14 +137,6 @@ public final class PromiseTest {
     DUE.row("offered with FIRST and law 1", offered(x), 0, 0, 0, 0, 0, 0);
     x.drop(1);
     DUE.row("offered without FIRST again", offered(x), 0, 1, 0, 1, 0, 1);
-  }
-
-  private static int[] offered(WhichShelf x) {
-    int[] is = new int[6];
-    for (int shelf = 0; shelf < 6; shelf++) {
-      is[shelf] = x.sum(shelf, 4);
-    }
-    return is;
   }
 
   // Promise 6

@@ -195,6 +195,7 @@ public final class ChoiceBoundaryTest extends Trial {
   // ---- Promise 12
 
   private static void bests() {
+    bestFromTheFirstCallOn();
     bestAtItsWorst();
     bestAtItsRoom();
     bestByGreatestRoom();
@@ -202,6 +203,17 @@ public final class ChoiceBoundaryTest extends Trial {
     bestWithoutCalls();
     bestOfOffered();
     bestOfNone();
+  }
+
+  private static void bestFromTheFirstCallOn() {
+    DUE.of("12: the one with the fewest steps (of the first CALL too)");
+    WhichShelf x = new WhichShelf();
+    x.call(LEAST, 0);
+    lay(x, PUT, 1, 2, 3);
+    lay(x, ASK, 3, 3);
+    // ROW: 0, 3, 6; BITS: 64, 3, 2; HASH: 8, 3, 4
+    DUE.is("with a dear first CALL", x.best(HIGHEST, HIGHEST), ROW);
+    DUE.is("of late it is another", x.drift(ROW, 5, 0), BITS);
   }
 
   private static void bestAtItsWorst() {

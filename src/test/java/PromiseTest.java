@@ -162,7 +162,8 @@ public final class PromiseTest extends Trial {
     x.call(FIRST, 11);
     DUE.row("kinds", new int[] {x.told(0, 0), x.told(2, 0), x.told(4, 0)}, PUT, STRIKE, FIRST);
     DUE.row("keys", new int[] {x.told(0, 1), x.told(3, 1), x.told(4, 1)}, 4, 60, 11);
-    DUE.row("how many", new int[] {x.told(0, 2), x.told(1, 2), x.told(2, 2), x.told(3, 2), x.told(4, 2)}, 1, 2, 1, 1, 1);
+    DUE.row("how many", new int[] {x.told(0, 2), x.told(1, 2), x.told(2, 2), x.told(3, 2), x.told(4, 2)},
+        1, 2, 1, 1, 1);
     DUE.is("what 3", x.told(0, 3), NONE);
     DUE.is("what -1", x.told(0, -1), NONE);
     DUE.is("call -1", x.told(-1, 0), NONE);

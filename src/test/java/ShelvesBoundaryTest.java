@@ -208,6 +208,7 @@ public final class ShelvesBoundaryTest extends Trial {
     DUE.is("of the greatest key, by 64 too: places 1, 0; place 1", steps(put(10, 63), SORTED, MANY, 63), 3);
     DUE.is("of the least key: places 1, 0 twice", steps(put(0, 10), SORTED, MANY, 0), 4);
     DUE.is("not there, above all: place 1 twice", steps(put(0, 10), SORTED, MANY, 11), 2);
+    DUE.is("with k and 1 there: places 1, 0 twice", steps(put(10, 11), SORTED, MANY, 10), 4);
   }
 
   private static void sortedWalk() {
@@ -718,6 +719,9 @@ public final class ShelvesBoundaryTest extends Trial {
     lay(x, STRIKE, 63, 63, 63);
     x.call(PUT, 63);
     DUE.row("a STRIKE of none takes none", keysOn(x, BITS), 63);
+    WhichShelf three = put(63, 63, 63);
+    three.call(STRIKE, 63);
+    DUE.row("a STRIKE takes one of three", keysOn(three, BITS), 63, 63);
   }
 
   private static void bitsWalk() {
@@ -752,6 +756,7 @@ public final class ShelvesBoundaryTest extends Trial {
   private static void allShelves() {
     firstCostsNothing();
     allAreSteppedAlong();
+    strikesOfAlmostAll();
     noSuchCost();
   }
 
@@ -781,6 +786,26 @@ public final class ShelvesBoundaryTest extends Trial {
     DUE.row("ASK behind FIRST", stepsOnAll(x, ASK, 1), 2, 3, 2, 2, 1, 1);
     for (int shelf = 0; shelf < 6; shelf++) {
       DUE.is("keys of both PUTs", keysOn(x, shelf).length, 2);
+    }
+  }
+
+  private static void strikesOfAlmostAll() {
+    DUE.of("9: Steps of CALL i (a STRIKE as the 200th, 199 being there)");
+    WhichShelf x = almostFull();
+    // SORTED: eight halvings, 1, 198 behind it
+    DUE.row("the first of like ones", stepsOnAll(x, STRIKE, 0), 199, 207, 2, 1, 1, 1);
+    for (int shelf = 0; shelf < 6; shelf++) {
+      DUE.is("the last of 198", x.key(shelf, 197), 0);
+      DUE.is("behind it", x.key(shelf, 198), NONE);
+    }
+    WhichShelf last = full();
+    last.drop(2);
+    last.call(PUT, 63);
+    // SORTED: places 99, 149, 174, 187, 193, 196, 198, 197, and 1; HASH: alone in its chain
+    DUE.row("the last of all", stepsOnAll(last, STRIKE, 63), 199, 9, 2, 2, 199, 1);
+    for (int shelf = 0; shelf < 6; shelf++) {
+      DUE.is("the one ahead of it stays", last.key(shelf, 197), 0);
+      DUE.is("it is gone", last.key(shelf, 198), NONE);
     }
   }
 

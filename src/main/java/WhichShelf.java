@@ -610,7 +610,7 @@ public final class WhichShelf {
                 case FIRST:
                     return 0;
                 case MANY:
-                    return 1 + endOfChain(key) - headOfChain(key);
+                    return 1 + headOfChain(chainOf(key) + 1) - headOfChain(chainOf(key));
                 default:
                     return width + size;
             }
@@ -621,8 +621,8 @@ public final class WhichShelf {
             return key & (width - 1);
         }
 
-        private int headOfChain(int key) {
-            int chain = chainOf(key);
+        /** Where a chain begins, or would begin: behind its last key the next one does. */
+        private int headOfChain(int chain) {
             int place = 0;
             while (place < size && chainOf(line[place]) < chain) {
                 place++;
@@ -630,20 +630,12 @@ public final class WhichShelf {
             return place;
         }
 
-        private int endOfChain(int key) {
-            int chain = chainOf(key);
-            int place = headOfChain(key);
-            while (place < size && chainOf(line[place]) == chain) {
-                place++;
-            }
-            return place;
-        }
-
         // Like keys are all in one chain, so the first in the row is the first in the chain.
         private int seek(int key) {
+            int chain = chainOf(key);
             int place = placeOf(key);
-            int end = place == NONE ? endOfChain(key) : place + 1;
-            return 1 + end - headOfChain(key);
+            int end = place == NONE ? headOfChain(chain + 1) : place + 1;
+            return 1 + end - headOfChain(chain);
         }
 
         private int strike(int key) {
@@ -653,7 +645,7 @@ public final class WhichShelf {
         }
 
         private int putAtHead(int key) {
-            insert(headOfChain(key), key);
+            insert(headOfChain(chainOf(key)), key);
             return 1;
         }
 
@@ -666,7 +658,7 @@ public final class WhichShelf {
             width *= 2;
             size = 0;
             for (int i = 0; i < moved; i++) {
-                insert(headOfChain(old[i]), old[i]);
+                putAtHead(old[i]);
             }
             return moved;
         }
